@@ -1,3 +1,5 @@
+import java.math.BigInteger;
+
 /** Compares answers with what is due, prints those that differ, and ends a test with its exit code. */
 final class Due {
     static final int HOST = 1;
@@ -54,6 +56,18 @@ final class Due {
             data |= 1 << (19 + type);
         }
         return data;
+    }
+
+    /** The digest in numbers that do not wrap by themselves, so that the wrapping is seen. */
+    static int digest(int... numbers) {
+        BigInteger all = BigInteger.ONE.shiftLeft(64);
+        BigInteger factor = new BigInteger("9E3779B97F4A7C15", 16);
+        BigInteger h = BigInteger.ZERO;
+        for (int x : numbers) {
+            h = h.xor(BigInteger.valueOf(x).mod(all)).multiply(factor).mod(all);
+            h = h.xor(h.shiftRight(30));
+        }
+        return h.shiftRight(33).intValueExact();
     }
 
     static void end() {

@@ -1,5 +1,3 @@
-import java.math.BigInteger;
-
 /** Promise 7: seal. */
 public final class Promise07SealTest {
     public static void main(String[] args) {
@@ -23,21 +21,9 @@ public final class Promise07SealTest {
         int[] keys = {1, 2, 999, 1000000};
         for (int zone : zones) {
             for (int key : keys) {
-                Due.is("seal " + zone + ", " + key, x.seal(zone, key), digest(77, zone, key));
+                Due.is("seal " + zone + ", " + key, x.seal(zone, key), Due.digest(77, zone, key));
             }
         }
-    }
-
-    /** The digest in numbers that do not wrap by themselves, so that the wrapping is seen. */
-    private static int digest(int... numbers) {
-        BigInteger all = BigInteger.ONE.shiftLeft(64);
-        BigInteger factor = new BigInteger("9E3779B97F4A7C15", 16);
-        BigInteger h = BigInteger.ZERO;
-        for (int x : numbers) {
-            h = h.xor(BigInteger.valueOf(x).mod(all)).multiply(factor).mod(all);
-            h = h.xor(h.shiftRight(30));
-        }
-        return h.shiftRight(33).intValueExact();
     }
 
     private static void wrong() {

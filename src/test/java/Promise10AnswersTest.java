@@ -7,6 +7,7 @@ public final class Promise10AnswersTest {
         starSignature();
         starOfTheRoot();
         firstGoodOneCounts();
+        firstOfAllSignatures();
         starOwnerItself();
         notSigned();
         noSuchType();
@@ -74,6 +75,16 @@ public final class Promise10AnswersTest {
         w.signed(Due.name(5, 7, 2), Due.NEXT, Due.next(Due.name(5, 7, 4)), 0, TOP);
         w.x.drop(Due.name(5, 6), Due.NEXT);
         Due.asked("the first again", w.x, host, Due.HOST, TrustResolver.TRUE, 9);
+    }
+
+    private static void firstOfAllSignatures() {
+        World w = new World();
+        int host = Due.name(5, 7);
+        w.x.add(host, Due.HOST, 1);
+        Due.is("its number", w.sign(host, Due.HOST, 0, TOP, 0), 0);
+        w.holdKeys(0, TOP);
+        w.x.anchor(0, w.x.seal(0, TOP));
+        Due.asked("a star's", w.x, host, Due.HOST, TrustResolver.FALSE, 10);
     }
 
     /** A star's own set, signed with one label less, signs the same name, but is not plain. */
@@ -240,5 +251,8 @@ public final class Promise10AnswersTest {
         Due.asked("5.5 and 5.1", w.x, Due.name(5, 5), Due.HOST, TrustResolver.TRUE, 15);
         Due.asked("NEXT of 5", w.x, Due.name(5), Due.NEXT, TrustResolver.TRUE, 15);
         Due.asked("NEXT of 5.6", w.x, Due.name(5, 6), Due.NEXT, TrustResolver.TRUE, 8);
+        w.x.drop(0, Due.NEXT);
+        w.signed(Due.name(1), Due.NEXT, Due.next(Due.name(5, 6)), 0, TOP);
+        Due.asked("the star above 5 counts, not the one below", w.x, Due.name(5), Due.HOST, TrustResolver.TRUE, 16);
     }
 }

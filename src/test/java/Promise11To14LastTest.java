@@ -160,5 +160,12 @@ public final class Promise11To14LastTest {
         Due.is("seals not plain", w.x.reason(), 5);
         Due.is("the root's", w.x.figure(3), 1);
         Due.is("no zone behind", w.x.zone(1), TrustResolver.NONE);
+        World apart = new World();
+        apart.holdKeys(ZONE, 22);
+        apart.x.anchor(ZONE, apart.x.seal(ZONE, 22));
+        apart.x.ask(HOST, Due.HOST);
+        Due.is("the anchor's", apart.x.figure(3), 1);
+        apart.x.ask(0, Due.HOST);
+        Due.is("no zone", apart.x.figure(3), 0);
     }
 }
