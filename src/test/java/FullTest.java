@@ -21,9 +21,10 @@ public final class FullTest {
         for (int k = 0; k < 31; k++) {
             w.signed(chainName(k), Due.NEXT, Due.next(chainName((k + 1) % 31)), 0, TOP);
         }
-        for (int k = 0; w.x.figure(0) < 48; k++) {
+        for (int k = 0; k < 16; k++) {
             w.x.add(Due.name(27, 27, 27, 27), Due.HOST, k);
         }
+        Due.is("records", w.x.figure(0), 48);
         Due.is("signatures", w.x.figure(1), 32);
         Due.is("more", w.x.add(0, Due.HOST, 1), TrustResolver.FULL);
         Due.asked("the last NEXT covers", w.x, Due.name(24), Due.HOST, TrustResolver.TRUE, 15);

@@ -76,6 +76,9 @@ public final class Promise10KeysTest {
         Due.asked("another key is sealed", w.x, 0, Due.KEY, TrustResolver.FALSE, 3);
         w.x.add(0, Due.KEY, 12);
         Due.asked("now there, not signed", w.x, 0, Due.KEY, TrustResolver.FALSE, 4);
+        w.x.add(0, Due.NEXT, Due.name(1));
+        w.x.anchor(0, w.x.seal(0, Due.name(1)));
+        Due.asked("a number of another set", w.x, 0, Due.KEY, TrustResolver.FALSE, 3);
     }
 
     private static void sealedForAnotherZone() {
