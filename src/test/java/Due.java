@@ -35,10 +35,33 @@ final class Due {
         is(call, got ? 1 : 0, want ? 1 : 0);
     }
 
+    /** Asks, and compares the reason and the answer that goes with it. */
+    static void says(String call, TrustResolver x, int name, int type, int reason) {
+        asked(call, x, name, type, verdict(reason), reason);
+    }
+
     /** Asks, and compares the answer and its reason. */
     static void asked(String call, TrustResolver x, int name, int type, int verdict, int reason) {
         is(call + ": ask", x.ask(name, type), verdict);
         is(call + ": reason", x.reason(), reason);
+    }
+
+    /** What the document says with each reason: UNKNOWN with 1, OPEN with 6, TRUE with five, FALSE otherwise. */
+    static int verdict(int reason) {
+        switch (reason) {
+            case 1:
+                return TrustResolver.UNKNOWN;
+            case 6:
+                return TrustResolver.OPEN;
+            case 8:
+            case 9:
+            case 12:
+            case 15:
+            case 16:
+                return TrustResolver.TRUE;
+            default:
+                return TrustResolver.FALSE;
+        }
     }
 
     static int name(int... labels) {
@@ -46,6 +69,24 @@ final class Due {
         for (int k = 0; k < labels.length; k++) {
             name |= labels[k] << (15 - 5 * k);
         }
+        return name;
+    }
+
+    /** The least name that is greater, as an int; the root behind the greatest one. */
+    static int nameAfter(int name) {
+        return nearestName(name, 1);
+    }
+
+    /** The greatest name that is less, as an int; the greatest of all before the root. */
+    static int nameBefore(int name) {
+        return nearestName(name, -1);
+    }
+
+    private static int nearestName(int from, int step) {
+        int name = from;
+        do {
+            name = name + step & (1 << 20) - 1;
+        } while (Model.labels(name) == null);
         return name;
     }
 

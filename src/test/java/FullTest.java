@@ -56,37 +56,48 @@ public final class FullTest {
 
     /** Run beside the model, so that a wrong answer is seen as well as a throw. */
     private static void anyArguments() {
-        TrustResolver x = new TrustResolver();
-        Model model = new Model();
         for (int a : EDGES) {
-            one(x, model, a);
             for (int b : EDGES) {
-                two(x, model, a, b);
+                Both both = small();
+                one(both, a);
+                two(both, a, b);
                 for (int c : EDGES) {
-                    Due.is("add " + a + ", " + b + ", " + c, x.add(a, b, c), model.add(a, b, c));
-                    Due.is("sign " + a + ", " + b + ", " + c, x.sign(a, b, c, 7, 0), model.sign(a, b, c, 7, 0));
-                    Due.is("sign by key " + b + ", " + c, x.sign(a, 1, 0, b, c), model.sign(a, 1, 0, b, c));
+                    both.add(a, b, c);
+                    both.sign(a, b, c, 7, 0);
+                    both.sign(a, Due.HOST, 0, b, c);
+                    both.ask(c, b);
+                    both.reason();
                 }
             }
         }
     }
 
-    private static void one(TrustResolver x, Model model, int a) {
-        Due.is("answer " + a, x.answer(a), model.answer(a));
-        Due.is("zone " + a, x.zone(a), model.zone(a));
-        Due.is("figure " + a, x.figure(a), model.figure(a));
-        Due.is("tick " + a, x.tick(a), model.tick(a));
+    private static Both small() {
+        Both both = new Both();
+        for (int type = Due.HOST; type <= Due.NEXT; type++) {
+            both.add(0, type, Due.name(1));
+            both.sign(0, type, 0, Due.name(1), 0);
+        }
+        both.anchor(0, both.seal(0, Due.name(1)));
+        both.ask(0, Due.HOST);
+        return both;
     }
 
-    private static void two(TrustResolver x, Model model, int a, int b) {
-        String with = " " + a + ", " + b;
-        Due.is("window" + with, x.window(a, b), model.window(a, b));
-        Due.is("spoil" + with, x.spoil(a, b), model.spoil(a, b));
-        Due.is("seal" + with, x.seal(a, b), model.seal(a, b));
-        Due.is("anchor" + with, x.anchor(a, b), model.anchor(a, b));
-        Due.is("above" + with, x.above(a, b), model.above(a, b));
-        Due.is("ask" + with, x.ask(a, b), model.ask(a, b));
-        Due.is("reason" + with, x.reason(), model.reason());
-        Due.is("drop" + with, x.drop(a, b), model.drop(a, b));
+    private static void one(Both both, int a) {
+        both.answer(a);
+        both.zone(a);
+        both.figure(a);
+        both.tick(a);
+    }
+
+    private static void two(Both both, int a, int b) {
+        both.window(a, b);
+        both.spoil(a, b);
+        both.seal(a, b);
+        both.anchor(a, b);
+        both.above(a, b);
+        both.ask(a, b);
+        both.reason();
+        both.drop(a, b);
     }
 }

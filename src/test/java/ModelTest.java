@@ -9,13 +9,11 @@ public final class ModelTest {
     private static final int[] KEYS = {11, 12, 22, 23, 33, 1000000};
 
     private final Random random;
-    private final TrustResolver x = new TrustResolver();
-    private final Model model = new Model();
+    private final Both both = new Both();
     private final List<Integer> names = new ArrayList<>();
     private final int[] reasons;
     private int lastZone = 0;
     private int lastKey = KEYS[0];
-    private int calls = 0;
 
     private ModelTest(long seed, int[] reasons) {
         this.random = new Random(seed);
@@ -42,9 +40,10 @@ public final class ModelTest {
             addBelowLastZone();
         }
         int most = 100 + random.nextInt(350);
-        while (calls < most) {
+        while (both.calls < most) {
             oneCall();
         }
+        Due.is("no call behind the 512th, of " + both.calls, both.calls <= 512, true);
     }
 
     /** Few labels, so that names meet: above, below and beside one another. */
@@ -68,16 +67,16 @@ public final class ModelTest {
         int zone = Due.name();
         int key = KEYS[0];
         holdKeys(zone, key);
-        same("anchor", x.anchor(zone, x.seal(zone, key)), model.anchor(zone, model.seal(zone, key)));
+        both.anchor(zone, both.seal(zone, key));
         for (int depth = 1; depth <= World.depth(bottom); depth++) {
             int lower = bottom >> (20 - 5 * depth) << (20 - 5 * depth);
             if (random.nextInt(3) > 0) {
                 continue;
             }
             int lowerKey = KEYS[random.nextInt(KEYS.length)];
-            add(lower, Due.CUT, 1);
-            add(lower, Due.SEAL, x.seal(lower, lowerKey));
-            sign(lower, Due.SEAL, zone, key, depth);
+            both.add(lower, Due.CUT, 1);
+            both.add(lower, Due.SEAL, both.seal(lower, lowerKey));
+            both.sign(lower, Due.SEAL, zone, key, depth);
             holdKeys(lower, lowerKey);
             zone = lower;
             key = lowerKey;
@@ -90,38 +89,38 @@ public final class ModelTest {
     /** A set below the last zone, perhaps of a cut, signed by that zone, perhaps as a star's. */
     private void addBelowLastZone() {
         int owner = pick();
-        if (x.above(lastZone, owner) != -1) {
+        if (both.above(lastZone, owner) != -1) {
             return;
         }
         if (random.nextInt(4) == 0) {
-            add(owner, Due.CUT, 1);
-            add(owner, Due.NEXT, 1 + random.nextInt(31) << 20 | pick());
-            sign(owner, Due.NEXT, lastZone, lastKey, World.depth(owner));
+            both.add(owner, Due.CUT, 1);
+            both.add(owner, Due.NEXT, 1 + random.nextInt(31) << 20 | pick());
+            both.sign(owner, Due.NEXT, lastZone, lastKey, World.depth(owner));
         } else if (random.nextInt(3) == 0) {
-            add(owner, Due.CUT, 1);
-            add(owner, Due.SEAL, x.seal(owner, lastKey));
-            sign(owner, Due.SEAL, lastZone, lastKey, labelsFor(owner));
+            both.add(owner, Due.CUT, 1);
+            both.add(owner, Due.SEAL, both.seal(owner, lastKey));
+            both.sign(owner, Due.SEAL, lastZone, lastKey, labelsFor(owner));
         } else {
-            add(owner, Due.HOST, random.nextInt(5) - 2);
-            sign(owner, Due.HOST, lastZone, lastKey, random.nextInt(World.depth(owner)));
-            sign(owner, Due.HOST, lastZone, lastKey, random.nextInt(World.depth(owner)));
+            both.add(owner, Due.HOST, random.nextInt(5) - 2);
+            both.sign(owner, Due.HOST, lastZone, lastKey, random.nextInt(World.depth(owner)));
+            both.sign(owner, Due.HOST, lastZone, lastKey, random.nextInt(World.depth(owner)));
             ask(owner, Due.HOST);
         }
     }
 
     private void holdKeys(int zone, int key) {
-        add(zone, Due.KEY, key);
+        both.add(zone, Due.KEY, key);
         if (random.nextBoolean()) {
-            add(zone, Due.KEY, KEYS[random.nextInt(KEYS.length)]);
+            both.add(zone, Due.KEY, KEYS[random.nextInt(KEYS.length)]);
         }
-        sign(zone, Due.KEY, zone, key, World.depth(zone));
+        both.sign(zone, Due.KEY, zone, key, World.depth(zone));
     }
 
     private void nextChain(int zone, int key) {
         int owner = zone;
         int[] rising = names.stream().mapToInt(Integer::intValue).sorted().distinct().toArray();
         for (int name : rising) {
-            if (x.above(zone, name) == -1 && random.nextInt(5) > 1) {
+            if (both.above(zone, name) == -1 && random.nextInt(5) > 1) {
                 next(owner, name, zone, key);
                 owner = name;
             }
@@ -130,46 +129,71 @@ public final class ModelTest {
     }
 
     private void next(int owner, int to, int zone, int key) {
-        add(owner, Due.NEXT, random.nextInt(32) << 20 | to);
-        sign(owner, Due.NEXT, zone, key, World.depth(owner));
+        both.add(owner, Due.NEXT, random.nextInt(32) << 20 | to);
+        both.sign(owner, Due.NEXT, zone, key, World.depth(owner));
     }
 
     private void oneCall() {
+        if (random.nextInt(6) == 0) {
+            refusedCall();
+        }
         int roll = random.nextInt(100);
         if (roll < 12) {
-            add(name(), type(), data());
+            both.add(name(), type(), data());
         } else if (roll < 15) {
             int owner = name();
-            int type = type();
-            same("drop", x.drop(owner, type), model.drop(owner, type));
+            both.drop(owner, type());
         } else if (roll < 17) {
             int first = random.nextInt(40) - 2;
-            int last = first + random.nextInt(2000) - 2;
-            same("window", x.window(first, last), model.window(first, last));
+            both.window(first, first + random.nextInt(2000) - 2);
         } else if (roll < 31) {
             int owner = name();
-            sign(owner, type(), name(), KEYS[random.nextInt(KEYS.length)], labelsFor(owner));
+            both.sign(owner, type(), name(), KEYS[random.nextInt(KEYS.length)], labelsFor(owner));
         } else if (roll < 35) {
             int signature = random.nextInt(34) - 1;
-            int more = random.nextInt(3) - 1;
-            same("spoil", x.spoil(signature, more), model.spoil(signature, more));
+            both.spoil(signature, random.nextInt(3) - 1);
         } else if (roll < 37) {
             int zone = name();
-            int digest = random.nextInt(6) == 0 ? random.nextInt() : x.seal(zone, KEYS[random.nextInt(KEYS.length)]);
-            same("anchor", x.anchor(zone, digest), model.anchor(zone, digest));
+            int digest = random.nextInt(6) == 0 ? random.nextInt() : both.seal(zone, KEYS[random.nextInt(KEYS.length)]);
+            both.anchor(zone, digest);
         } else if (roll < 39) {
-            int n = random.nextInt(60) == 0 ? random.nextInt() : random.nextInt(30) - 2;
-            same("tick", x.tick(n), model.tick(n));
+            both.tick(random.nextInt(60) == 0 ? random.nextInt() : random.nextInt(30) - 2);
         } else if (roll < 41) {
             signWhatIsThere();
         } else if (roll < 42) {
             addBelowLastZone();
         } else if (roll < 44) {
             int name = name();
-            int other = name();
-            same("above", x.above(name, other), model.above(name, other));
+            both.above(name, name());
         } else {
             ask(name(), type());
+        }
+    }
+
+    /** Made on the program alone: if it changed anything, later answers would differ from the model's. */
+    private void refusedCall() {
+        int name = pick();
+        int type = 1 + random.nextInt(5);
+        int noName = Due.NO_NAMES[random.nextInt(Due.NO_NAMES.length)];
+        int noType = Due.NO_TYPES[random.nextInt(Due.NO_TYPES.length)];
+        int noKey = Due.NO_KEYS[random.nextInt(Due.NO_KEYS.length)];
+        int below = -1 - random.nextInt(3);
+        int none = TrustResolver.NONE;
+        switch (random.nextInt(14)) {
+            case 0 -> both.alone("add", x -> x.add(noName, type, 1), none);
+            case 1 -> both.alone("add", x -> x.add(name, noType, 1), none);
+            case 2 -> both.alone("add", x -> x.add(name, Due.KEY, noKey), none);
+            case 3 -> both.alone("drop", x -> x.drop(noName, type), none);
+            case 4 -> both.alone("drop", x -> x.drop(name, noType), none);
+            case 5 -> both.alone("window", x -> x.window(below, 9) ? 1 : 0, 0);
+            case 6 -> both.alone("window", x -> x.window(9, 9 + below) ? 1 : 0, 0);
+            case 7 -> both.alone("sign", x -> x.sign(name, type, 0, noKey, 0), none);
+            case 8 -> both.alone("sign", x -> x.sign(name, type, noName, 11, 0), none);
+            case 9 -> both.alone("sign", x -> x.sign(name, type, 0, 11, World.depth(name) - below), none);
+            case 10 -> both.alone("spoil", x -> x.spoil(below, 1) ? 1 : 0, 0);
+            case 11 -> both.alone("anchor", x -> x.anchor(name, below), none);
+            case 12 -> both.alone("tick", x -> x.tick(100000 - below), none);
+            default -> both.alone("ask", x -> x.ask(name, noType), none);
         }
     }
 
@@ -177,28 +201,27 @@ public final class ModelTest {
     private void signWhatIsThere() {
         int owner = pick();
         for (int type = Due.HOST; type <= Due.NEXT; type++) {
-            sign(owner, type, Math.max(0, x.zone(0)), KEYS[random.nextInt(KEYS.length)], labelsFor(owner));
+            both.sign(owner, type, Math.max(0, both.zone(0)), KEYS[random.nextInt(KEYS.length)], labelsFor(owner));
         }
     }
 
     private void ask(int name, int type) {
-        same("ask " + name + ", " + type, x.ask(name, type), model.ask(name, type));
-        same("reason", x.reason(), model.reason());
-        reasons[x.reason()]++;
+        both.ask(name, type);
+        reasons[both.reason()]++;
         for (int k = -1; k <= 5; k++) {
-            same("zone", x.zone(k), model.zone(k));
-            same("figure", x.figure(k), model.figure(k));
+            both.zone(k);
+            both.figure(k);
         }
         tellAnswer();
         if (random.nextInt(8) == 0) {
-            add(name, type, data());
+            both.add(name, type, data());
             tellAnswer();
         }
     }
 
     private void tellAnswer() {
         for (int k = -1; k <= 3; k++) {
-            same("answer", x.answer(k), model.answer(k));
+            both.answer(k);
         }
     }
 
@@ -230,28 +253,11 @@ public final class ModelTest {
             case 0:
                 return KEYS[random.nextInt(KEYS.length)];
             case 1:
-                return x.seal(pick(), KEYS[random.nextInt(KEYS.length)]);
+                return both.seal(pick(), KEYS[random.nextInt(KEYS.length)]);
             case 2:
                 return random.nextInt();
             default:
                 return random.nextInt(33) << 20 | pick();
         }
-    }
-
-    private void add(int owner, int type, int data) {
-        same("add", x.add(owner, type, data), model.add(owner, type, data));
-    }
-
-    private void sign(int owner, int type, int signer, int key, int labels) {
-        same("sign", x.sign(owner, type, signer, key, labels), model.sign(owner, type, signer, key, labels));
-    }
-
-    private void same(String call, boolean got, boolean want) {
-        same(call, got ? 1 : 0, want ? 1 : 0);
-    }
-
-    private void same(String call, long got, long want) {
-        calls++;
-        Due.is("call " + calls + ": " + call, got, want);
     }
 }
