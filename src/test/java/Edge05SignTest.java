@@ -93,6 +93,7 @@ public final class Edge05SignTest {
         for (int k = 0; k < 3; k++) {
             Due.is("33rd", x.sign(0, Due.KEY, 0, TOP, 0), TrustResolver.FULL);
             Due.is("signatures", x.figure(1), 32);
+            Due.says("the 32nd still holds", x, 0, Due.KEY, 8);
         }
         x.spoil(31, 1);
         Due.says("the 32nd is spoiled, the 33rd is not there", x, 0, Due.KEY, 4);

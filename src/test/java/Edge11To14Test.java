@@ -221,7 +221,11 @@ public final class Edge11To14Test {
         keysCounted("it stays in the root", w, Past.HOST, 7, 1);
         w.x.tick(1000);
         keysCounted("out of time in the root", w, Past.HOST, 4, 0);
-        Due.is("none counted after UNKNOWN", Past.UNKNOWN.made().figure(3), 0);
+        World apart = new World();
+        apart.holdKeys(Past.ZONE, 22);
+        apart.x.anchor(Past.ZONE, apart.x.seal(Past.ZONE, 22));
+        keysCounted("the anchor's", apart, Past.ZONE, 14, 1);
+        keysCounted("UNKNOWN", apart, 0, 1, 0);
     }
 
     private static void keysCounted(String what, World w, int name, int reason, int keys) {

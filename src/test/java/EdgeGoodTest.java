@@ -73,42 +73,37 @@ public final class EdgeGoodTest {
 
     /** 'the time is not before its first'. */
     private static void notBeforeItsFirst() {
-        World w = World.rooted();
-        w.x.window(7, 900);
-        w.signed(HOST, Due.HOST, 1, 0, TOP);
-        w.x.tick(6);
-        host("time 6 of 7", w, false);
-        w.x.tick(0);
-        host("time 6 still", w, false);
-        w.x.tick(1);
-        host("time 7", w, true);
+        forTimes(7, 900, 0, 6, 6, 7, 8);
+        forTimes(1, 900, 0, 1);
+        forTimes(0, 900, 0, 1);
     }
 
     /** 'and not behind its last one'. */
     private static void notBehindItsLast() {
-        World w = World.rooted();
-        w.x.window(0, 7);
-        w.signed(HOST, Due.HOST, 1, 0, TOP);
-        host("time 0", w, true);
-        w.x.tick(7);
-        host("time 7 of 7", w, true);
-        w.x.tick(1);
-        host("time 8", w, false);
+        forTimes(0, 7, 0, 6, 7, 8, 9);
+        forTimes(0, 1, 0, 1, 2);
+        forTimes(0, 0, 0, 1);
     }
 
     private static void atOneTimeAlone() {
-        World w = World.rooted();
-        w.x.tick(3);
-        w.x.window(4, 4);
-        w.signed(HOST, Due.HOST, 1, 0, TOP);
-        host("time 3 of 4", w, false);
-        w.x.tick(1);
-        host("time 4", w, true);
-        w.x.tick(1);
-        host("time 5", w, false);
-        w.x.window(0, 4);
+        World w = forTimes(4, 4, 3, 4, 5);
         w.sign(HOST, Due.HOST, 0, TOP);
         host("made when its time had gone", w, false);
+        w.x.window(5, 5);
+        w.sign(HOST, Due.HOST, 0, TOP);
+        host("made for the time that it is", w, true);
+    }
+
+    /** A signature from first to last, which is asked about at rising times. */
+    private static World forTimes(int first, int last, int... times) {
+        World w = World.rooted();
+        w.x.window(first, last);
+        w.signed(HOST, Due.HOST, 1, 0, TOP);
+        for (int time : times) {
+            w.x.tick(time - w.x.figure(2));
+            host("time " + time + " of " + first + " to " + last, w, time >= first && time <= last);
+        }
+        return w;
     }
 
     private static void timesFarAway() {

@@ -15,6 +15,7 @@ public final class EdgeReasonsTest {
         cutAtTheNameItself();
         reason8();
         reasons9And10();
+        firstGoodOne();
         reason11();
         reasons12And13();
         reason14();
@@ -195,6 +196,25 @@ public final class EdgeReasonsTest {
                 says(labels + " labels, covered " + covered, w, q, Due.HOST, holds ? 9 : 10);
             }
         }
+    }
+
+    /** 'the first one of these': of the good ones by their numbers, from 0, as they are when it is asked. */
+    private static void firstGoodOne() {
+        World w = new World();
+        int q = Due.name(9, 8, 7);
+        w.x.add(q, Due.HOST, 1);
+        w.sign(q, Due.HOST, 0, TOP, 2);
+        w.sign(q, Due.HOST, 0, TOP, 1);
+        w.holdKeys(0, TOP);
+        w.x.anchor(0, w.x.seal(0, TOP));
+        w.signed(Due.name(9), Due.NEXT, Due.next(Due.name(9, 8, 1)), 0, TOP);
+        says("number 0, with 9.8.7", w, q, Due.HOST, 10);
+        w.x.spoil(0, 1);
+        says("number 1, with 9.8", w, q, Due.HOST, 9);
+        w.x.spoil(0, -1);
+        says("number 0 again", w, q, Due.HOST, 10);
+        w.sign(q, Due.HOST, 0, TOP);
+        says("a plain one goes before all", w, q, Due.HOST, 8);
     }
 
     private static void reason11() {

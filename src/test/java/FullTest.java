@@ -10,6 +10,7 @@ public final class FullTest {
         fullOfNexts();
         fullOfKeys();
         anyArguments();
+        anyArgumentsInAnyState();
         Due.end();
     }
 
@@ -70,6 +71,38 @@ public final class FullTest {
                 }
             }
         }
+    }
+
+    /** Nothing may be thrown, whatever was before: what is answered, other tests see to. */
+    private static void anyArgumentsInAnyState() {
+        for (Past past : Past.values()) {
+            for (int a : EDGES) {
+                for (int b : EDGES) {
+                    everyCall(past.made(), a, b);
+                }
+            }
+        }
+    }
+
+    private static void everyCall(TrustResolver x, int a, int b) {
+        for (int c = -1; c <= 6; c++) {
+            x.sign(a, c, b, Past.TOP, c);
+            x.sign(Past.HOST, c, a, b, c);
+            x.add(a, c, b);
+            x.ask(a, c);
+            x.answer(b);
+        }
+        x.window(a, b);
+        x.spoil(a, b);
+        x.seal(a, b);
+        x.anchor(a, b);
+        x.tick(a);
+        x.zone(a);
+        x.figure(a);
+        x.above(a, b);
+        x.drop(a, b);
+        x.ask(Past.HOST, Due.HOST);
+        Due.is("a reason", x.reason() >= 1 && x.reason() <= 17, true);
     }
 
     private static Both small() {

@@ -39,11 +39,31 @@ public final class ModelTest {
         for (int k = random.nextInt(4); k > 0; k--) {
             addBelowLastZone();
         }
+        if (random.nextInt(4) == 0) {
+            crowd();
+        }
         int most = 100 + random.nextInt(350);
         while (both.calls < most) {
             oneCall();
         }
         Due.is("no call behind the 512th, of " + both.calls, both.calls <= 512, true);
+    }
+
+    /** So many records, signatures and anchors that it is full, or nearly so. */
+    private void crowd() {
+        int records = random.nextInt(4) == 0 ? 20 : 60;
+        for (int k = 0; k < records; k++) {
+            both.add(name(), Due.HOST, k);
+        }
+        int signatures = random.nextInt(4) == 0 ? 10 : 50;
+        for (int k = 0; k < signatures; k++) {
+            int owner = pick();
+            both.sign(owner, 1 + random.nextInt(5), lastZone, lastKey, World.depth(owner));
+        }
+        for (int k = 0; k < 6; k++) {
+            both.anchor(pick(), k);
+        }
+        both.anchor(0, both.seal(0, KEYS[0]));
     }
 
     /** Few labels, so that names meet: above, below and beside one another. */
@@ -165,6 +185,8 @@ public final class ModelTest {
         } else if (roll < 44) {
             int name = name();
             both.above(name, name());
+        } else if (roll < 48) {
+            askDropAndTellAgain(name(), type());
         } else {
             ask(name(), type());
         }
@@ -208,6 +230,10 @@ public final class ModelTest {
     private void ask(int name, int type) {
         both.ask(name, type);
         reasons[both.reason()]++;
+        if (random.nextInt(3) > 0) {
+            both.figure(3);
+            return;
+        }
         for (int k = -1; k <= 5; k++) {
             both.zone(k);
             both.figure(k);
@@ -216,6 +242,18 @@ public final class ModelTest {
         if (random.nextInt(8) == 0) {
             both.add(name, type, data());
             tellAnswer();
+        }
+    }
+
+    /** Signatures stay when their set goes, and are good when it is what it was. */
+    private void askDropAndTellAgain(int name, int type) {
+        ask(name, type);
+        int[] datas = {both.answer(0), both.answer(1)};
+        both.drop(name, type);
+        both.ask(name, type);
+        for (int data : datas) {
+            both.add(name, type, data);
+            ask(name, type);
         }
     }
 
