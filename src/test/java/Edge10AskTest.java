@@ -6,6 +6,8 @@ public final class Edge10AskTest {
         whatWasAskedLastStays();
         namesAndTypesAtTheirEnds();
         askedAgain();
+        formerKeysDoNotCount();
+        formerDigestsAreNotTrusted();
         Due.end();
     }
 
@@ -63,6 +65,35 @@ public final class Edge10AskTest {
                 w.x.ask(before[0], before[1]);
                 Due.says("behind " + before[0], w.x, asked[0], asked[1], asked[2]);
             }
+        }
+    }
+
+    /** All keys of 8 count there; of the keys of 9, which are the same, only one is sealed, but not signing. */
+    private static void formerKeysDoNotCount() {
+        World w = new World();
+        w.holdKeys(Due.name(8), 22, 23, 24);
+        w.x.anchor(Due.name(8), w.x.seal(Due.name(8), 22));
+        w.x.add(Due.name(9), Due.KEY, 22);
+        w.holdKeys(Due.name(9), 23, 24);
+        w.sign(Due.name(9), Due.KEY, Due.name(9), 24);
+        w.x.anchor(Due.name(9), w.x.seal(Due.name(9), 22));
+        Due.says("keys that hold", w.x, Due.name(8), Due.KEY, 8);
+        Due.says("the same keys elsewhere", w.x, Due.name(9), Due.KEY, 4);
+    }
+
+    /** Two seals of 5 were trusted on the way; another anchor has but one digest, and that of no key. */
+    private static void formerDigestsAreNotTrusted() {
+        int other = Due.name(9);
+        for (int key = 33; key <= 40; key++) {
+            World w = World.rooted();
+            w.x.add(Past.ZONE, Due.CUT, 1);
+            w.x.add(Past.ZONE, Due.SEAL, w.x.seal(other, key));
+            w.signed(Past.ZONE, Due.SEAL, w.x.seal(Past.ZONE, 22), 0, Past.TOP);
+            w.holdKeys(Past.ZONE, 22);
+            w.holdKeys(other, key);
+            w.x.anchor(other, 0);
+            Due.says("by two seals", w.x, Past.ZONE, Due.KEY, 8);
+            Due.says("by a digest of no key", w.x, other, Due.KEY, 3);
         }
     }
 }
