@@ -6,7 +6,7 @@ import java.util.Arrays;
 import java.util.Set;
 import java.util.TreeSet;
 
-/** The public face: every member of the document, and no other that can be seen from outside. */
+/** The public face: every member of the document, no other that can be seen from outside, and rule 1 of LANGUAGE.md. */
 public final class FaceTest {
     private static final Set<String> METHODS = new TreeSet<>(Arrays.asList(
             "int add(int,int,int)", "int drop(int,int)", "boolean window(int,int)",
@@ -23,12 +23,43 @@ public final class FaceTest {
         Due.is("OPEN", TrustResolver.OPEN, 1);
         Due.is("FALSE", TrustResolver.FALSE, 2);
         Due.is("UNKNOWN", TrustResolver.UNKNOWN, 3);
-        Due.is("final", Modifier.isFinal(TrustResolver.class.getModifiers()), true);
+        classItself();
+        constantsInCases();
         methods();
         fields();
         constructors();
         classesInside();
         Due.end();
+    }
+
+    private static void classItself() {
+        Class<TrustResolver> face = TrustResolver.class;
+        Due.is("public", Modifier.isPublic(face.getModifiers()), true);
+        Due.is("final", Modifier.isFinal(face.getModifiers()), true);
+        Due.is("without a package", face.getPackageName().isEmpty(), true);
+        Due.is("an interface, enum or record", face.isInterface() || face.isEnum() || face.isRecord(), false);
+        Due.is("extends nothing", face.getSuperclass() == Object.class, true);
+        Due.is("implements nothing", face.getInterfaces().length, 0);
+    }
+
+    /** The document writes them as constants, so a caller's switch may name them: else this does not compile. */
+    private static void constantsInCases() {
+        int seen = 0;
+        for (int value = -2; value <= 3; value++) {
+            switch (value) {
+                case TrustResolver.FULL:
+                case TrustResolver.NONE:
+                case TrustResolver.TRUE:
+                case TrustResolver.OPEN:
+                case TrustResolver.FALSE:
+                case TrustResolver.UNKNOWN:
+                    seen++;
+                    break;
+                default:
+                    break;
+            }
+        }
+        Due.is("constants that differ", seen, 6);
     }
 
     private static void methods() {
@@ -40,12 +71,21 @@ public final class FaceTest {
                 publicNames.add(m.getName());
                 Due.is(m + " is public, no static one",
                         Modifier.isPublic(m.getModifiers()) && !Modifier.isStatic(m.getModifiers()), true);
+                Due.is(m + " declares exceptions", m.getExceptionTypes().length, 0);
             }
         }
         Due.is("methods " + seen, seen.equals(METHODS), true);
-        for (Method m : TrustResolver.class.getDeclaredMethods()) {
+        noPrivateOneHas(publicNames, TrustResolver.class);
+        for (Class<?> inside : TrustResolver.class.getDeclaredClasses()) {
+            noPrivateOneHas(publicNames, inside);
+        }
+    }
+
+    /** 'No private method bears the name of a public one.' */
+    private static void noPrivateOneHas(Set<String> publicNames, Class<?> where) {
+        for (Method m : where.getDeclaredMethods()) {
             boolean twice = Modifier.isPrivate(m.getModifiers()) && publicNames.contains(m.getName());
-            Due.is("a private " + m.getName(), twice, false);
+            Due.is("a private " + m.getName() + " in " + where, twice, false);
         }
     }
 
@@ -64,7 +104,7 @@ public final class FaceTest {
             if (!Modifier.isPrivate(modifiers)) {
                 seen.add(f.getName());
                 Due.is(f + " is a constant", Modifier.isPublic(modifiers) && Modifier.isStatic(modifiers)
-                        && f.getType() == int.class, true);
+                        && Modifier.isFinal(modifiers) && f.getType() == int.class, true);
             }
             Due.is(f + " is no changing static", Modifier.isStatic(modifiers) && !Modifier.isFinal(modifiers), false);
         }
@@ -76,6 +116,7 @@ public final class FaceTest {
         Due.is("constructors", all.length, 1);
         Due.is("public", Modifier.isPublic(all[0].getModifiers()), true);
         Due.is("arguments", all[0].getParameterCount(), 0);
+        Due.is("declares exceptions", all[0].getExceptionTypes().length, 0);
     }
 
     private static void classesInside() {

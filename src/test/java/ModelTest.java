@@ -46,7 +46,21 @@ public final class ModelTest {
         while (both.calls < most) {
             oneCall();
         }
+        if (random.nextInt(4) == 0) {
+            toTheLastCall();
+        }
         Due.is("no call behind the 512th, of " + both.calls, both.calls <= 512, true);
+    }
+
+    /** 'used for at most 512 calls': the last ones are answered as well as the first. */
+    private void toTheLastCall() {
+        while (both.calls < 509) {
+            both.ask(name(), type());
+            reasons[both.reason()]++;
+        }
+        while (both.calls < 512) {
+            both.figure(both.calls % 4);
+        }
     }
 
     /** So many records, signatures and anchors that it is full, or nearly so. */
